@@ -1,0 +1,107 @@
+/** What every test uses: it compares answers with those that are due, and makes trackers ready. */
+abstract class Due {
+    private static int wrong = 0;
+
+    interface Call {
+        void make();
+    }
+
+    static void due(String call, long got, long want) {
+        if (got != want) {
+            complain(call + " answered " + got + ", due is " + want);
+        }
+    }
+
+    static void due(String call, boolean got, boolean want) {
+        if (got != want) {
+            complain(call + " answered " + got + ", due is " + want);
+        }
+    }
+
+    static void dueDouble(String call, double got, double want) {
+        if (Double.doubleToLongBits(got) != Double.doubleToLongBits(want)) {
+            complain(call + " answered " + got + ", due is " + want);
+        }
+    }
+
+    /** The call has to throw exactly this exception, and to change nothing that the digest tells. */
+    static void dueThrow(TicketChains x, String call, Class<? extends RuntimeException> want, Call made) {
+        long before = x.digest();
+        String got = "nothing";
+        try {
+            made.make();
+        } catch (RuntimeException e) {
+            got = e.getClass().getName();
+        }
+        if (!got.equals(want.getName())) {
+            complain(call + " threw " + got + ", due is " + want.getName());
+        }
+        if (x.digest() != before) {
+            complain(call + " threw and changed something");
+        }
+    }
+
+    static void dueIndex(TicketChains x, String call, Call made) {
+        dueThrow(x, call, IndexOutOfBoundsException.class, made);
+    }
+
+    static void dueArgument(TicketChains x, String call, Call made) {
+        dueThrow(x, call, IllegalArgumentException.class, made);
+    }
+
+    static void dueState(TicketChains x, String call, Call made) {
+        dueThrow(x, call, IllegalStateException.class, made);
+    }
+
+    /** The call has to save a state, and undo has to take back all that it did. */
+    static void dueUndoable(TicketChains x, String call, Call made) {
+        TicketChains fresh = x;
+        int saved = fresh.savedStates();
+        long before = fresh.digest();
+        made.make();
+        due(call + " saves a state", fresh.savedStates(), Math.min(saved + 1, 6));
+        fresh.undo();
+        if (saved < 6) {
+            due(call + " is taken back by undo", fresh.digest(), before);
+        }
+    }
+
+    static void complain(String what) {
+        wrong++;
+        System.out.println(what);
+    }
+
+    static void end(String test) {
+        System.out.println(test + ": " + (wrong == 0 ? "all answers are as due" : wrong + " answers are not as due"));
+        if (wrong != 0) {
+            System.exit(1);
+        }
+    }
+
+    /** A tracker with a ticket of the priority 1 for each number of points. */
+    static TicketChains withTickets(int... points) {
+        TicketChains x = new TicketChains();
+        for (int each : points) {
+            x.openTicket(each, 1);
+        }
+        return x;
+    }
+
+    static void write(TicketChains x, String text) {
+        x.clearBuffer();
+        for (int i = 0; i < text.length(); i++) {
+            x.append(text.charAt(i));
+        }
+    }
+
+    static void toReview(TicketChains x, int ticket, int owner) {
+        x.assign(ticket, owner);
+        x.start(ticket);
+        x.submit(ticket);
+    }
+
+    static void toClosed(TicketChains x, int ticket, int owner) {
+        toReview(x, ticket, owner);
+        x.close(ticket);
+    }
+}
