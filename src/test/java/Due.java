@@ -24,9 +24,10 @@ abstract class Due {
         }
     }
 
-    /** The call has to throw exactly this exception, and to change nothing that the digest tells. */
+    /** The call has to throw exactly this exception, and to change nothing. */
     static void dueThrow(TicketChains x, String call, Class<? extends RuntimeException> want, Call made) {
         long before = x.digest();
+        String readBefore = Reading.of(x);
         String got = "nothing";
         try {
             made.make();
@@ -36,9 +37,8 @@ abstract class Due {
         if (!got.equals(want.getName())) {
             complain(call + " threw " + got + ", due is " + want.getName());
         }
-        if (x.digest() != before) {
-            complain(call + " threw and changed something");
-        }
+        due(call + ", the digest behind it", x.digest(), before);
+        dueText(call + " changes nothing", Reading.of(x), readBefore);
     }
 
     static void dueIndex(TicketChains x, String call, Call made) {
@@ -55,14 +55,18 @@ abstract class Due {
 
     /** The call has to save a state, and undo has to take back all that it did. */
     static void dueUndoable(TicketChains x, String call, Call made) {
-        TicketChains fresh = x;
-        int saved = fresh.savedStates();
-        long before = fresh.digest();
+        int saved = x.savedStates();
+        String before = Reading.of(x);
         made.make();
-        due(call + " saves a state", fresh.savedStates(), Math.min(saved + 1, 6));
-        fresh.undo();
-        if (saved < 6) {
-            due(call + " is taken back by undo", fresh.digest(), before);
+        due(call + " saves a state", x.savedStates(), Math.min(saved + 1, 6));
+        x.undo();
+        dueText(call + " is taken back by undo", Reading.of(x), before);
+    }
+
+    static void dueText(String call, String got, String want) {
+        if (!got.equals(want)) {
+            complain(call + ": the answers are not as due: " + got.replace('\n', ',')
+                    + " due are " + want.replace('\n', ','));
         }
     }
 
