@@ -1,0 +1,227 @@
+/** Promises 20 to 24: the buffer, its syntax errors, orders as texts. */
+final class TextsTest extends Due {
+    private static final String FULL = "o1;o2;o3;o4;o5;o6;o7;o8;o9;o1;o2;o3;o4;o5;o6;o7;o8;o9;o1;o2;";
+
+    public static void main(String[] args) {
+        promise20Append();
+        promise21ClearBuffer();
+        promise22FirstErrorOfWholeTexts();
+        promise22FirstErrorOfBeginnings();
+        promise22FirstErrorOfWrongTexts();
+        promise22AllSigns();
+        promise22TextOfAnyLength();
+        promise23Follow();
+        promise23FollowOpens();
+        promise23FollowAllOrNothing();
+        promise23FollowIsUndoneAsOne();
+        promise24ImpossibleOrder();
+        promise24EachOrder();
+        bufferThatTellsNoOrders();
+        end("TextsTest");
+    }
+
+    private static void promise20Append() {
+        TicketChains x = new TicketChains();
+        due("append(33)", x.append(33), 1);
+        due("append(126)", x.append(126), 2);
+        dueArgument(x, "append(32)", () -> x.append(32));
+        dueArgument(x, "append(127)", () -> x.append(127));
+        dueArgument(x, "append(-1)", () -> x.append(-1));
+        dueArgument(x, "append(65536 + 111)", () -> x.append(65536 + 111));
+        for (int length = 3; length <= 60; length++) {
+            due("append", x.append('o'), length);
+        }
+        dueState(x, "append to 60", () -> x.append('o'));
+        dueArgument(x, "append a wrong one to 60", () -> x.append(32));
+        due("savedStates", x.savedStates(), 0);
+    }
+
+    private static void promise21ClearBuffer() {
+        TicketChains x = new TicketChains();
+        due("clearBuffer of an empty one", x.clearBuffer(), 0);
+        write(x, "o3;e");
+        due("clearBuffer", x.clearBuffer(), 4);
+        due("clearBuffer again", x.clearBuffer(), 0);
+        due("append behind it", x.append('e'), 1);
+        due("savedStates", x.savedStates(), 0);
+    }
+
+    private static void dueError(String text, int want) {
+        TicketChains x = new TicketChains();
+        write(x, text);
+        long before = x.digest();
+        due("firstError of " + text, x.firstError(), want);
+        due("digest behind firstError of " + text, x.digest(), before);
+    }
+
+    private static void promise22FirstErrorOfWholeTexts() {
+        String[] texts = {"o1", "o9", "o10", "o13", "o1!0", "o13!3", "n0>0", "n19>10", "a0@0", "a19@4",
+            "s0", "s9", "s10", "s19", "r1", "c19", "e1", "e9", "e10", "e19", "e20", "e29", "e30",
+            "o1;o2!3;n1>0;a0@1;s0;r0;c0;e30", FULL.substring(0, 59)};
+        for (String text : texts) {
+            dueError(text, text.length());
+        }
+    }
+
+    private static void promise22FirstErrorOfBeginnings() {
+        String[] texts = {"", "o", "o1!", "n", "n1", "n1>", "a", "a1", "a1@", "s", "r", "c", "e", "o1;", "s1;e3;", FULL};
+        for (String text : texts) {
+            dueError(text, text.length());
+        }
+    }
+
+    private static void promise22FirstErrorOfWrongTexts() {
+        String[] texts = {";", "x", "O1", "1", "o0", "o!", "o;", "o14", "o20", "o1!4", "o1!!", "o1!00", "o1!31", "o133",
+            "n>", "n20", "n00", "n1<2", "n1@2", "n1>>", "n1>20", "n1>01", "n1;", "n190", "n1>190",
+            "a>", "a20", "a1>", "a1@5", "a1@9", "a1@;", "a1@44", "a01",
+            "s20", "s01", "s;", "s-1", "s1!", "s199", "r20", "c20", "c1c",
+            "e0", "e31", "e40", "e300", "e!", "e01", "o1;;", "o1;o", "o1;x", "o1,o1", "e30;e31", "a1@4;o13!3;n19>20"};
+        int[] errors = {0, 0, 0, 0, 1, 1, 1, 2, 2, 3, 3, 4, 4, 3,
+            1, 2, 2, 2, 2, 3, 4, 4, 2, 3, 5,
+            1, 2, 2, 3, 3, 3, 4, 2,
+            2, 2, 1, 1, 2, 3, 2, 2, 2,
+            1, 2, 2, 3, 1, 1, 3, 4, 3, 2, 6, 16};
+        due("as many errors as texts", errors.length, texts.length);
+        for (int i = 0; i < texts.length; i++) {
+            dueError(texts[i], errors[i]);
+        }
+    }
+
+    /** Behind each beginning only the signs named are no syntax errors. */
+    private static void promise22AllSigns() {
+        String[][] cases = {{"", "onasrce"}, {"o1;", "onasrce"}, {"o", "123456789"}, {"o1", "0123!;"}, {"o2", "!;"},
+            {"o13", "!;"}, {"o1!", "0123"}, {"o1!0", ";"}, {"n", "0123456789"}, {"n0", ">"}, {"n1", "0123456789>"},
+            {"n2", ">"}, {"n12", ">"}, {"n1>", "0123456789"}, {"n1>1", "0123456789;"}, {"n1>0", ";"},
+            {"a", "0123456789"}, {"a1", "0123456789@"}, {"a3", "@"}, {"a3@", "01234"}, {"a3@1", ";"},
+            {"s", "0123456789"}, {"s1", "0123456789;"}, {"r3", ";"}, {"c0", ";"}, {"c19", ";"},
+            {"e", "123456789"}, {"e1", "0123456789;"}, {"e2", "0123456789;"}, {"e3", "0;"}, {"e4", ";"}, {"e30", ";"}};
+        for (String[] each : cases) {
+            for (char sign = 33; sign <= 126; sign++) {
+                boolean fits = each[1].indexOf(sign) >= 0;
+                dueError(each[0] + sign, each[0].length() + (fits ? 1 : 0));
+            }
+        }
+    }
+
+    private static void promise22TextOfAnyLength() {
+        dueError(FULL, 60);
+        dueError("s10;s10;s10;s10;s10;s10;s10;s10;s10;s10;s10;s10;s10;s10;s10;", 60);
+        dueError("s10;s10;s10;s10;s10;s10;s10;s10;s10;s10;s10;s10;s10;s10;n10;", 59);
+        dueError("s10;s10;s10;s10;s10;s10;s10;s10;s10;s10;s10;s10;s10;s10;n10>", 60);
+    }
+
+    private static void promise23Follow() {
+        TicketChains x = withTickets(3, 5);
+        x.endDays(1);
+        write(x, "o4;n1>0;a0@1;s0;e2;r0;e3;c0;a1@1;s1;r1;c1;o2!3");
+        due("follow", x.follow(), 2);
+        due("tickets", x.tickets(), 4);
+        due("pointsOf(2)", x.pointsOf(2), 4);
+        due("priorityOf(2), left out", x.priorityOf(2), 1);
+        due("priorityOf(3)", x.priorityOf(3), 3);
+        due("openedOn(3)", x.openedOn(3), 6);
+        due("closedOn(0)", x.closedOn(0), 6);
+        due("daysInProgress(0)", x.daysInProgress(0), 2);
+        due("needs(1,0)", x.needs(1, 0), true);
+        due("ownerOf(1)", x.ownerOf(1), 1);
+        due("closings", x.closings(), 2);
+        due("day", x.day(), 6);
+        due("the buffer is cleared", x.clearBuffer(), 0);
+        due("savedStates", x.savedStates(), 4);
+        write(x, "e1");
+        due("follow without a closing", x.follow(), 0);
+    }
+
+    private static void promise23FollowOpens() {
+        TicketChains x = new TicketChains();
+        write(x, FULL.substring(0, 59));
+        due("follow 20 orders", x.follow(), 0);
+        due("tickets", x.tickets(), 20);
+        due("pointsOf(19)", x.pointsOf(19), 2);
+        due("savedStates", x.savedStates(), 1);
+        write(x, "o1");
+        dueState(x, "follow: the 21st ticket", x::follow);
+    }
+
+    private static void promise23FollowAllOrNothing() {
+        TicketChains x = withTickets(3, 5);
+        write(x, "a0@1;s0;r0;c0;c1");
+        dueState(x, "follow up to the last order", x::follow);
+        due("stateOf(0)", x.stateOf(0), 0);
+        due("loadByAccount(1)", x.loadByAccount(1), 0);
+        due("the buffer stays", x.clearBuffer(), 16);
+        due("savedStates", x.savedStates(), 2);
+    }
+
+    private static void promise23FollowIsUndoneAsOne() {
+        TicketChains x = withTickets(3, 5);
+        String before = Reading.of(x);
+        write(x, "a0@1;s0;r0;c0;e9;o1");
+        x.follow();
+        due("savedStates", x.savedStates(), 3);
+        write(x, "e4");
+        x.undo();
+        dueText("undo of follow", Reading.of(x), before);
+        due("savedStates behind it", x.savedStates(), 2);
+        due("the buffer is not taken back", x.clearBuffer(), 2);
+    }
+
+    private static void dueImpossible(TicketChains x, String text, int want) {
+        write(x, text);
+        String before = Reading.of(x);
+        long digest = x.digest();
+        due("impossibleOrder of " + text, x.impossibleOrder(), want);
+        dueText("impossibleOrder of " + text + " changes nothing", Reading.of(x), before);
+        due("digest behind impossibleOrder of " + text, x.digest(), digest);
+        dueState(x, "follow of " + text, x::follow);
+    }
+
+    private static void promise24ImpossibleOrder() {
+        TicketChains x = withTickets(3, 5);
+        dueImpossible(x, "s0", 0);
+        dueImpossible(x, "a0@0;s0;s0;c5", 2);
+        dueImpossible(x, "o1;o2;a3@0;a4@0", 3);
+        write(x, "a0@0;s0");
+        dueState(x, "impossibleOrder, all can be followed", x::impossibleOrder);
+        due("the buffer stays", x.clearBuffer(), 7);
+        due("stateOf(0)", x.stateOf(0), 0);
+    }
+
+    private static void promise24EachOrder() {
+        TicketChains x = withTickets(13, 8, 2);
+        dueImpossible(x, "n0>3", 0);
+        dueImpossible(x, "n3>0", 0);
+        dueImpossible(x, "n1>1", 0);
+        dueImpossible(x, "n0>1;n0>1", 1);
+        dueImpossible(x, "n0>1;n1>2;n2>0", 2);
+        dueImpossible(x, "a3@0", 0);
+        dueImpossible(x, "a0@0;a0@0", 1);
+        dueImpossible(x, "a0@0;a1@0", 1);
+        dueImpossible(x, "s3", 0);
+        dueImpossible(x, "r3", 0);
+        dueImpossible(x, "r0", 0);
+        dueImpossible(x, "c3", 0);
+        dueImpossible(x, "c0", 0);
+        dueImpossible(x, "n0>1;a0@0;s0;r0;c0", 4);
+        dueImpossible(x, "a0@0;s0;r0;c0;a0@1", 4);
+        dueImpossible(x, "a0@0;s0;r0;c0;n0>1", 4);
+        for (int i = 0; i < 33; i++) {
+            x.endDays(30);
+        }
+        dueImpossible(x, "e9;e1", 1);
+        dueImpossible(x, "e10", 0);
+        TicketChains full = withTickets(1, 1, 1, 1, 1, 1, 1, 1, 1, 1, 1, 1, 1, 1, 1, 1, 1, 1, 1);
+        dueImpossible(full, "o1;o1", 1);
+    }
+
+    private static void bufferThatTellsNoOrders() {
+        TicketChains x = withTickets(3, 5);
+        String[] texts = {"", "o", "o1!", "o1;", "n1", "n1>", "a1@", "s", "x", "o14", "s0;x", "a0@0;;", "o1;e31", FULL};
+        for (String text : texts) {
+            write(x, text);
+            dueArgument(x, "follow of " + text, x::follow);
+            dueArgument(x, "impossibleOrder of " + text, x::impossibleOrder);
+            due("the buffer stays: " + text, x.clearBuffer(), text.length());
+        }
+    }
+}
