@@ -948,7 +948,8 @@ public final class TicketChains {
     /** Chains of tickets, and the orders in which tickets can be done; the rows are used anew by each call. */
     private static final class Chains {
         private final int[] table = new int[MOST_TICKETS];
-        private final int[] bests = new int[MOST_TICKETS];
+        private final int[] triedBests = new int[MOST_TICKETS];
+        private final int[] orderedBests = new int[MOST_TICKETS];
         final int[] closingOrder = new int[MOST_TICKETS];
 
         int countByTable(Board board, int ticket) {
@@ -983,11 +984,11 @@ public final class TicketChains {
 
         int mostPointsByTrying(Board board) {
             for (int ticket = 0; ticket < board.ticketCount; ticket++) {
-                bests[ticket] = NONE;
+                triedBests[ticket] = NONE;
             }
             int most = 0;
             for (int ticket = 0; ticket < board.ticketCount; ticket++) {
-                most = Math.max(most, tryFrom(board, ticket, bests, 1));
+                most = Math.max(most, tryFrom(board, ticket, triedBests, 1));
             }
             return most;
         }
@@ -1015,8 +1016,8 @@ public final class TicketChains {
                 if (ticket == NONE) {
                     return most;
                 }
-                bests[ticket] = countedPoints(board, ticket) + bestNeeded(board, ticket);
-                most = Math.max(most, bests[ticket]);
+                orderedBests[ticket] = countedPoints(board, ticket) + bestNeeded(board, ticket);
+                most = Math.max(most, orderedBests[ticket]);
                 placed |= setOf(ticket);
             }
             return most;
@@ -1035,7 +1036,7 @@ public final class TicketChains {
             int best = 0;
             for (int needed = 0; needed < board.ticketCount; needed++) {
                 if (board.needsDirectly(ticket, needed)) {
-                    best = Math.max(best, bests[needed]);
+                    best = Math.max(best, orderedBests[needed]);
                 }
             }
             return best;

@@ -216,6 +216,18 @@ final class DependenciesTest extends Due {
         x.drop(0);
         x.drop(1);
         dueCritical(x, "all are closed or dropped", 0);
+        TicketChains ordered = withTickets(3, 5, 4);
+        ordered.need(0, 1);
+        ordered.need(1, 2);
+        due("criticalByOrder alone", ordered.criticalByOrder(), 12);
+        ordered.release(1, 2);
+        due("criticalByOrder alone, one released", ordered.criticalByOrder(), 8);
+        TicketChains tried = withTickets(3, 5, 4);
+        tried.need(0, 1);
+        tried.need(1, 2);
+        due("criticalByTrying alone", tried.criticalByTrying(), 12);
+        tried.release(1, 2);
+        due("criticalByTrying alone, one released", tried.criticalByTrying(), 8);
     }
 
     private static void longestChainOfAll() {

@@ -237,6 +237,14 @@ final class MilestonesTest extends Due {
         x.changeDate(0, 41);
         due("misplanned with a later day", x.misplanned(3), 1);
         due("misplanned of the later one", x.misplanned(0), 0);
+        TicketChains turned = withTickets(1, 1);
+        turned.plan(1, 0);
+        turned.need(1, 0);
+        due("misplanned: needs the ticket 0, planned for none", turned.misplanned(0), 1);
+        turned.plan(0, 1);
+        due("misplanned: needs the ticket 0, planned later", turned.misplanned(0), 1);
+        turned.changeDate(1, 10);
+        due("misplanned: needs the ticket 0, planned for the same day", turned.misplanned(0), 0);
     }
 
     private static void promise63LateMilestones() {

@@ -10,8 +10,10 @@ final class TextsTest extends Due {
         promise22FirstErrorOfWrongTexts();
         promise22AllSigns();
         promise22TextOfAnyLength();
+        promise22SignsOfEarlierTexts();
         promise23Follow();
         promise23FollowOpens();
+        promise23NumbersOfTwoDigits();
         promise23FollowAllOrNothing();
         promise23FollowIsUndoneAsOne();
         promise24ImpossibleOrder();
@@ -108,6 +110,37 @@ final class TextsTest extends Due {
         dueError("s10;s10;s10;s10;s10;s10;s10;s10;s10;s10;s10;s10;s10;s10;s10;", 60);
         dueError("s10;s10;s10;s10;s10;s10;s10;s10;s10;s10;s10;s10;s10;s10;n10;", 59);
         dueError("s10;s10;s10;s10;s10;s10;s10;s10;s10;s10;s10;s10;s10;s10;n10>", 60);
+        String first58 = "s10;".repeat(13) + "e1;e1;";
+        String[] ends = {"o1", "o9", "n1", "a1", "s1", "r9", "c0", "e1", "e3"};
+        for (String end : ends) {
+            dueError(first58 + end, 60);
+        }
+        dueError(first58 + "o", 59);
+        dueError(first58 + ";1", 58);
+        dueError(first58 + "e0", 59);
+        dueError("s10;".repeat(14) + "o1!3", 60);
+        dueError("s10;".repeat(14) + "o1!4", 59);
+    }
+
+    /** The signs of a text that was cleared must not be read behind the end of a shorter one. */
+    private static void promise22SignsOfEarlierTexts() {
+        String[] before = {"o1!3", "o13;e1", "n1>2", "a1@3", "s12;s3", "e12", "e1;e2"};
+        String[] after = {"o1", "o1", "n1", "a1", "s1", "e1", "e1;"};
+        boolean[] whole = {true, true, false, false, true, true, false};
+        for (int i = 0; i < before.length; i++) {
+            TicketChains x = withTickets(1, 1, 1);
+            write(x, before[i]);
+            write(x, after[i]);
+            due("firstError of " + after[i] + " behind " + before[i], x.firstError(), after[i].length());
+            if (!whole[i]) {
+                dueArgument(x, "follow of " + after[i] + " behind " + before[i], x::follow);
+            }
+        }
+        TicketChains x = new TicketChains();
+        write(x, "o1!3");
+        write(x, "o1");
+        x.follow();
+        due("priorityOf(0)", x.priorityOf(0), 1);
     }
 
     private static void promise23Follow() {
@@ -141,6 +174,19 @@ final class TextsTest extends Due {
         due("savedStates", x.savedStates(), 1);
         write(x, "o1");
         dueState(x, "follow: the 21st ticket", x::follow);
+    }
+
+    private static void promise23NumbersOfTwoDigits() {
+        TicketChains x = withTickets(1, 1, 1, 1, 1, 1, 1, 1, 1, 1, 1, 1, 1);
+        write(x, "o12!2;o13;e29;n11>12;n3>14;a14@4;s14;e12;r14;c14");
+        due("follow", x.follow(), 1);
+        due("pointsOf(13)", x.pointsOf(13), 12);
+        due("pointsOf(14)", x.pointsOf(14), 13);
+        due("day", x.day(), 41);
+        due("needs(11,12)", x.needs(11, 12), true);
+        due("needs(3,14)", x.needs(3, 14), true);
+        due("donePointsOf(4)", x.donePointsOf(4), 13);
+        due("daysInProgress(14)", x.daysInProgress(14), 12);
     }
 
     private static void promise23FollowAllOrNothing() {
