@@ -12,6 +12,10 @@ final class AccountsTest extends Due {
         promises71And72Counts();
         promise73PointsOfWeek();
         promise74MeanDays();
+        promises66To74Empty();
+        promises65To70OfTwenty();
+        promise73OnTheLastDays();
+        promise74FewAndMany();
         end("AccountsTest");
     }
 
@@ -227,5 +231,99 @@ final class AccountsTest extends Due {
         TicketChains quick = withTickets(1);
         toClosed(quick, 0, 0);
         dueDouble("meanDays without days", quick.meanDays(), 0.0);
+    }
+
+    private static void promises66To74Empty() {
+        TicketChains x = new TicketChains();
+        due("day", x.day(), 0);
+        for (int state = 0; state < 5; state++) {
+            due("withState " + state, x.withState(state), 0);
+            due("pointsWith " + state, x.pointsWith(state), 0);
+        }
+        due("allPoints", x.allPoints(), 0);
+        due("blockedTickets", x.blockedTickets(), 0);
+        due("closings", x.closings(), 0);
+        due("reopenings", x.reopenings(), 0);
+        due("pointsOfWeek", x.pointsOfWeek(), 0);
+        dueDouble("meanDays", x.meanDays(), 0.0);
+        endDaysTo(x, 999);
+        due("the last day", x.day(), 999);
+    }
+
+    private static void promises65To70OfTwenty() {
+        TicketChains x = withTwenty(13);
+        int[] order = new int[20];
+        for (int ticket = 0; ticket < 20; ticket++) {
+            order[ticket] = ticket;
+        }
+        dueOrder(x, "of twenty equal ones", order);
+        due("nextToDo of twenty equal ones", x.nextToDo(), 0);
+        for (int ticket = 0; ticket < 19; ticket++) {
+            x.need(ticket, ticket + 1);
+            order[19 - ticket] = ticket;
+        }
+        order[0] = 19;
+        dueOrder(x, "of a chain of twenty", order);
+        due("nextToDo of a chain of twenty", x.nextToDo(), 19);
+        due("blockedTickets", x.blockedTickets(), 19);
+        due("withState(0)", x.withState(0), 20);
+        due("pointsWith(0)", x.pointsWith(0), 260);
+        due("allPoints", x.allPoints(), 260);
+        for (int ticket = 19; ticket >= 0; ticket--) {
+            due("withState(3)", x.withState(3), 19 - ticket);
+            due("blockedTickets, some closed", x.blockedTickets(), ticket);
+            due("nextToDo, some closed", x.nextToDo(), ticket);
+            toClosed(x, ticket, 2);
+        }
+        due("pointsWith(3)", x.pointsWith(3), 260);
+        due("pointsOfWeek", x.pointsOfWeek(), 260);
+        due("closings", x.closings(), 20);
+        dueState(x, "nextToDo, all are closed", x::nextToDo);
+        dueOrder(x, "of twenty closed ones");
+    }
+
+    private static void promise73OnTheLastDays() {
+        TicketChains x = withTickets(1, 2, 4);
+        endDaysTo(x, 992);
+        toClosed(x, 0, 0);
+        x.endDays(1);
+        toClosed(x, 1, 0);
+        x.endDays(5);
+        due("closed 5 and 6 days ahead", x.pointsOfWeek(), 3);
+        x.endDays(1);
+        due("closed 6 and 7 days ahead", x.pointsOfWeek(), 2);
+        toClosed(x, 2, 0);
+        due("closed on the last day", x.pointsOfWeek(), 6);
+        TicketChains first = withTickets(5);
+        toClosed(first, 0, 0);
+        first.endDays(6);
+        due("closed on the day 0, told on the day 6", first.pointsOfWeek(), 5);
+        first.endDays(1);
+        due("closed on the day 0, told on the day 7", first.pointsOfWeek(), 0);
+        first.reopen(0);
+        first.start(0);
+        first.submit(0);
+        first.close(0);
+        due("the last closing counts", first.pointsOfWeek(), 5);
+    }
+
+    private static void promise74FewAndMany() {
+        TicketChains x = withTwenty(1);
+        x.assign(0, 0);
+        x.start(0);
+        endDaysTo(x, 999);
+        x.submit(0);
+        x.close(0);
+        dueDouble("meanDays of 999", x.meanDays(), 999.0);
+        for (int ticket = 1; ticket < 20; ticket++) {
+            toClosed(x, ticket, 0);
+            dueDouble("meanDays of 999 in " + (ticket + 1), x.meanDays(), 999.0 / (ticket + 1));
+        }
+        x.reopen(0);
+        dueDouble("meanDays of 19 without days", x.meanDays(), 0.0);
+        x.start(0);
+        x.submit(0);
+        x.close(0);
+        dueDouble("the days stay", x.meanDays(), 999.0 / 20.0);
     }
 }

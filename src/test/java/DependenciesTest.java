@@ -13,6 +13,9 @@ final class DependenciesTest extends Due {
         promises49And50Critical();
         longestChainOfAll();
         allTicketsNeedAllLaterOnes();
+        oneTicketNeedsAllOthers();
+        mostPointsOfAll();
+        statesWithoutTicketsOrNeeds();
         queriesOfMissingTickets();
         end("DependenciesTest");
     }
@@ -279,5 +282,65 @@ final class DependenciesTest extends Due {
             dueIndex(x, "allNeedsByTable " + ticket, () -> x.allNeedsByTable(ticket));
             dueIndex(x, "chainOf " + ticket, () -> x.chainOf(ticket));
         }
+    }
+
+    private static void oneTicketNeedsAllOthers() {
+        TicketChains x = withTwenty(1);
+        for (int needed = 0; needed < 19; needed++) {
+            due("need(19," + needed + ")", x.need(19, needed), needed + 1);
+        }
+        due("needsOf(19)", x.needsOf(19), 19);
+        due("blockersOf(19)", x.blockersOf(19), 19);
+        dueAllNeeds(x, 19, 19);
+        due("chainOf(19)", x.chainOf(19), 2);
+        dueState(x, "all needs are there already", () -> x.need(19, 18));
+        for (int needed = 0; needed < 19; needed++) {
+            due("neededBy", x.neededBy(needed), 1);
+            x.drop(needed);
+            due("blockersOf(19), some dropped", x.blockersOf(19), 18 - needed);
+            due("isBlocked(19), some dropped", x.isBlocked(19), needed < 18);
+        }
+        due("needsOf(19), all dropped", x.needsOf(19), 19);
+        for (int needed = 0; needed < 19; needed++) {
+            due("release(19," + needed + ")", x.release(19, needed), 18 - needed);
+        }
+        dueState(x, "no need is left", () -> x.release(19, 0));
+        dueAllNeeds(x, 19, 0);
+    }
+
+    private static void mostPointsOfAll() {
+        TicketChains x = withTwenty(13);
+        dueCritical(x, "of twenty without needs", 13);
+        for (int ticket = 0; ticket < 19; ticket++) {
+            x.need(ticket, ticket + 1);
+        }
+        dueCritical(x, "of twenty with 13 points each", 260);
+        for (int ticket = 0; ticket < 20; ticket++) {
+            x.drop(ticket);
+            dueCritical(x, "with some dropped", 247 - 13 * ticket);
+        }
+    }
+
+    private static void statesWithoutTicketsOrNeeds() {
+        TicketChains x = withTickets(4);
+        due("needsOf alone", x.needsOf(0), 0);
+        due("neededBy alone", x.neededBy(0), 0);
+        due("isBlocked alone", x.isBlocked(0), false);
+        due("blockersOf alone", x.blockersOf(0), 0);
+        dueAllNeeds(x, 0, 0);
+        due("chainOf alone", x.chainOf(0), 1);
+        dueCritical(x, "of one", 4);
+        dueArgument(x, "need(0,0), alone", () -> x.need(0, 0));
+        dueState(x, "release(0,0), alone", () -> x.release(0, 0));
+        toClosed(x, 0, 0);
+        due("chainOf a closed one", x.chainOf(0), 1);
+        dueCritical(x, "of one closed", 0);
+        x.reopen(0);
+        dueCritical(x, "of one opened again", 4);
+        x.assign(0, 1);
+        x.start(0);
+        dueCritical(x, "of one in progress", 4);
+        x.submit(0);
+        dueCritical(x, "of one in review", 4);
     }
 }

@@ -91,6 +91,22 @@ abstract class Due {
         return x;
     }
 
+    /** A tracker with twenty tickets of the priority 1, all of the same points. */
+    static TicketChains withTwenty(int points) {
+        TicketChains x = new TicketChains();
+        for (int ticket = 0; ticket < 20; ticket++) {
+            x.openTicket(points, 1);
+        }
+        return x;
+    }
+
+    static void endDaysTo(TicketChains x, int day) {
+        for (int step = 0; step < 40 && x.day() < day; step++) {
+            x.endDays(Math.min(30, day - x.day()));
+        }
+        due("day", x.day(), day);
+    }
+
     static void write(TicketChains x, String text) {
         x.clearBuffer();
         for (int i = 0; i < text.length(); i++) {

@@ -7,6 +7,9 @@ final class HistoryTest extends Due {
         promise27Undo();
         promise27UndoTakesBackAllKinds();
         promise28SavedStates();
+        promises26And27LeaveTheSlots();
+        promises26And27SixStates();
+        emptyTrackerIsKept();
         undoneStatesAreNotShared();
         end("HistoryTest");
     }
@@ -182,5 +185,67 @@ final class HistoryTest extends Due {
                 due("priorityOf(0) at " + step, x.priorityOf(0), step % 4);
             }
         }
+    }
+
+    private static void promises26And27LeaveTheSlots() {
+        TicketChains x = new TicketChains();
+        x.keep(0);
+        x.openTicket(1, 1);
+        x.keep(1);
+        x.openTicket(2, 2);
+        x.goBack(0);
+        due("slot 0", x.tickets(), 0);
+        x.goBack(1);
+        due("slot 1 behind goBack(0)", x.tickets(), 1);
+        x.keep(0);
+        x.undo();
+        x.undo();
+        due("undo leaves", x.tickets(), 2);
+        x.goBack(0);
+        due("slot 0 is not taken back by undo", x.tickets(), 1);
+        x.changePriority(0, 3);
+        x.goBack(1);
+        due("the snapshot is not changed with the tracker", x.priorityOf(0), 1);
+    }
+
+    private static void promises26And27SixStates() {
+        TicketChains x = new TicketChains();
+        x.keep(1);
+        for (int day = 1; day <= 6; day++) {
+            x.endDays(1);
+        }
+        due("six states", x.savedStates(), 6);
+        x.goBack(1);
+        due("goBack with six states", x.savedStates(), 6);
+        int[] days = {6, 5, 4, 3, 2, 1};
+        for (int left = 5; left >= 0; left--) {
+            x.undo();
+            due("day behind undo", x.day(), days[5 - left]);
+            due("savedStates", x.savedStates(), left);
+        }
+        dueState(x, "undo behind six", x::undo);
+        x.goBack(1);
+        due("goBack without a state", x.savedStates(), 1);
+        x.undo();
+        due("undo of goBack", x.day(), 1);
+    }
+
+    private static void emptyTrackerIsKept() {
+        TicketChains x = new TicketChains();
+        long fresh = x.digest();
+        String empty = Reading.of(x);
+        x.keep(0);
+        due("keep is in the digest", x.digest() == fresh, false);
+        x.openTicket(3, 3);
+        x.changeCapacity(0, 1);
+        x.changeDate(0, 1);
+        x.goBack(0);
+        dueText("the empty tracker", Reading.of(x), empty);
+        due("openTicket in it", x.openTicket(1, 1), 0);
+        due("pointsOf(0)", x.pointsOf(0), 1);
+        x.keep(0);
+        x.keep(0);
+        x.goBack(0);
+        due("keep twice", x.tickets(), 1);
     }
 }

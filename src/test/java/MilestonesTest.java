@@ -3,9 +3,11 @@ final class MilestonesTest extends Due {
     public static void main(String[] args) {
         promise10Plan();
         promise11Unplan();
+        promises10And11InEachState();
         promise12ChangeDate();
         promise13EndDays();
         promise13LastDay();
+        promise13EachWayToTheLastDay();
         promise57DateOf();
         promises58And59Points();
         promise60HundredthsDone();
@@ -13,6 +15,10 @@ final class MilestonesTest extends Due {
         promise62Misplanned();
         promise62MisplannedByDates();
         promise63LateMilestones();
+        promises57To63Empty();
+        promises58To60OfTwenty();
+        promise61FirstAndLastDay();
+        promise62OfTwenty();
         queriesOfMissingMilestones();
         end("MilestonesTest");
     }
@@ -272,5 +278,128 @@ final class MilestonesTest extends Due {
             dueIndex(x, "isLate " + milestone, () -> x.isLate(milestone));
             dueIndex(x, "misplanned " + milestone, () -> x.misplanned(milestone));
         }
+    }
+
+    private static void promises10And11InEachState() {
+        TicketChains x = withTickets(1, 2, 3);
+        x.assign(1, 0);
+        x.start(1);
+        toReview(x, 2, 0);
+        for (int ticket = 0; ticket < 3; ticket++) {
+            int at = ticket;
+            for (int milestone = 0; milestone < 4; milestone++) {
+                due("plan " + ticket + " for " + milestone, x.plan(ticket, milestone), ticket + 1);
+                int to = milestone;
+                dueState(x, "plan " + ticket + " for " + milestone + " again", () -> x.plan(at, to));
+            }
+            due("unplan " + ticket, x.unplan(ticket), 3);
+            dueState(x, "unplan " + ticket + " again", () -> x.unplan(at));
+            due("plan " + ticket + " behind unplan", x.plan(ticket, 3), ticket + 1);
+            due("unplan " + ticket + " once more", x.unplan(ticket), 3);
+        }
+    }
+
+    private static void promise13EachWayToTheLastDay() {
+        for (int days = 1; days <= 30; days++) {
+            TicketChains x = new TicketChains();
+            int now = days;
+            endDaysTo(x, 1000 - days);
+            dueState(x, "endDays to 1000 by " + days, () -> x.endDays(now));
+            if (days > 1) {
+                due("endDays to 999 by " + (days - 1), x.endDays(days - 1), 999);
+            }
+            dueState(x, "endDays on the last day", () -> x.endDays(now));
+        }
+    }
+
+    private static void promises57To63Empty() {
+        TicketChains x = new TicketChains();
+        endDaysTo(x, 999);
+        for (int milestone = 0; milestone < 4; milestone++) {
+            due("dateOf " + milestone, x.dateOf(milestone), 10 * (milestone + 1));
+            due("pointsLeft " + milestone, x.pointsLeft(milestone), 0);
+            due("pointsDone " + milestone, x.pointsDone(milestone), 0);
+            due("hundredthsDone " + milestone, x.hundredthsDone(milestone), 100);
+            due("isLate " + milestone, x.isLate(milestone), false);
+            due("misplanned " + milestone, x.misplanned(milestone), 0);
+        }
+        due("lateMilestones", x.lateMilestones(), 0);
+    }
+
+    private static void promises58To60OfTwenty() {
+        TicketChains x = withTwenty(13);
+        for (int ticket = 0; ticket < 20; ticket++) {
+            due("plan " + ticket, x.plan(ticket, 3), 13 * (ticket + 1));
+        }
+        due("hundredthsDone, none", x.hundredthsDone(3), 0);
+        x.reestimate(0, 2);
+        x.reestimate(19, 3);
+        toClosed(x, 0, 0);
+        due("2 in 239 are 0 hundredths", x.hundredthsDone(3), 0);
+        x.reopen(0);
+        x.reestimate(0, 3);
+        x.start(0);
+        x.submit(0);
+        x.close(0);
+        due("3 in 240 are 1 hundredth", x.hundredthsDone(3), 1);
+        for (int ticket = 1; ticket < 19; ticket++) {
+            toClosed(x, ticket, 0);
+        }
+        due("237 in 240 are 98 hundredths", x.hundredthsDone(3), 98);
+        x.reestimate(19, 2);
+        due("237 in 239 are 99 hundredths", x.hundredthsDone(3), 99);
+        x.reestimate(19, 13);
+        toClosed(x, 19, 0);
+        due("pointsDone of all", x.pointsDone(3), 250);
+        due("pointsLeft of none", x.pointsLeft(3), 0);
+        due("hundredthsDone of all", x.hundredthsDone(3), 100);
+        TicketChains full = withTwenty(13);
+        for (int ticket = 0; ticket < 20; ticket++) {
+            full.plan(ticket, 0);
+            toClosed(full, ticket, 4);
+        }
+        due("pointsDone, all with 13", full.pointsDone(0), 260);
+    }
+
+    private static void promise61FirstAndLastDay() {
+        TicketChains x = withTickets(1);
+        x.plan(0, 2);
+        x.changeDate(2, 0);
+        due("isLate on the day 0", x.isLate(2), false);
+        x.endDays(1);
+        due("isLate on the day 1", x.isLate(2), true);
+        due("lateMilestones on the day 1", x.lateMilestones(), 1);
+        endDaysTo(x, 999);
+        x.changeDate(2, 998);
+        due("isLate on the last day, by one", x.isLate(2), true);
+        x.changeDate(2, 999);
+        due("isLate on the last day", x.isLate(2), false);
+        due("lateMilestones on the last day", x.lateMilestones(), 0);
+    }
+
+    private static void promise62OfTwenty() {
+        TicketChains x = withTwenty(1);
+        for (int ticket = 1; ticket < 20; ticket++) {
+            x.plan(ticket, 1);
+            x.need(ticket, 0);
+            due("misplanned, 0 is planned for none", x.misplanned(1), ticket);
+        }
+        x.changeDate(0, 20);
+        x.plan(0, 0);
+        due("misplanned with the same day", x.misplanned(1), 0);
+        x.changeDate(1, 19);
+        due("misplanned by one day", x.misplanned(1), 19);
+        x.changeDate(1, 20);
+        x.changeDate(0, 999);
+        due("misplanned with the last day", x.misplanned(1), 19);
+        x.assign(19, 0);
+        x.start(19);
+        due("misplanned in progress", x.misplanned(1), 19);
+        x.submit(19);
+        due("misplanned in review", x.misplanned(1), 19);
+        x.drop(19);
+        due("misplanned, one dropped", x.misplanned(1), 18);
+        x.drop(0);
+        due("misplanned, needing a dropped one", x.misplanned(1), 0);
     }
 }

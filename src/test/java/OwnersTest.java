@@ -3,6 +3,8 @@ final class OwnersTest extends Due {
     public static void main(String[] args) {
         promise7Assign();
         promise7AssignRefused();
+        promise7IsTheOwnersAlready();
+        promise7AtTheCapacity();
         promise8Unassign();
         promise9ChangeCapacity();
         promise51CapacityOf();
@@ -10,6 +12,9 @@ final class OwnersTest extends Due {
         promise54InProgressOf();
         promise55DonePointsOf();
         promise56FreestOwner();
+        promises51To56Empty();
+        promises52To55OfTwenty();
+        promise56Ties();
         queriesOfMissingOwners();
         end("OwnersTest");
     }
@@ -204,5 +209,108 @@ final class OwnersTest extends Due {
             dueIndex(x, "inProgressOf " + owner, () -> x.inProgressOf(owner));
             dueIndex(x, "donePointsOf " + owner, () -> x.donePointsOf(owner));
         }
+    }
+
+    private static void promise7IsTheOwnersAlready() {
+        TicketChains x = withTickets(1);
+        for (int owner = 0; owner < 5; owner++) {
+            int to = owner;
+            due("assign to " + owner, x.assign(0, owner), 1);
+            dueState(x, "assign to " + owner + " again", () -> x.assign(0, to));
+        }
+        x.start(0);
+        dueState(x, "assign to its owner in progress", () -> x.assign(0, 4));
+        x.submit(0);
+        dueState(x, "assign to its owner in review", () -> x.assign(0, 4));
+        due("assign to another one in review", x.assign(0, 0), 1);
+        x.assign(0, 4);
+        x.close(0);
+        x.reopen(0);
+        dueState(x, "assign to the owner that stayed", () -> x.assign(0, 4));
+        x.unassign(0);
+        due("assign to the owner that it had before", x.assign(0, 4), 1);
+    }
+
+    private static void promise7AtTheCapacity() {
+        TicketChains x = withTwenty(13);
+        x.changeCapacity(4, 99);
+        for (int ticket = 0; ticket < 7; ticket++) {
+            due("assign " + ticket, x.assign(ticket, 4), 13 * (ticket + 1));
+        }
+        dueState(x, "assign 13 to 91 of 99", () -> x.assign(7, 4));
+        x.reestimate(7, 9);
+        dueState(x, "assign 9 to 91 of 99", () -> x.assign(7, 4));
+        x.reestimate(7, 8);
+        due("assign 8 to 91 of 99", x.assign(7, 4), 99);
+        x.reestimate(8, 1);
+        dueState(x, "assign 1 to 99 of 99", () -> x.assign(8, 4));
+        dueState(x, "changeCapacity to 98 with a load of 99", () -> x.changeCapacity(4, 98));
+        due("changeCapacity to 99 with a load of 99", x.changeCapacity(4, 99), 99);
+        x.drop(0);
+        due("assign 1 behind the drop of 13", x.assign(8, 4), 87);
+        TicketChains moved = withTickets(5, 5);
+        moved.changeCapacity(0, 5);
+        moved.changeCapacity(1, 4);
+        moved.assign(0, 0);
+        dueState(moved, "assign in place of another one, above the capacity", () -> moved.assign(0, 1));
+        dueState(moved, "assign above a capacity that is used up", () -> moved.assign(1, 0));
+        moved.changeCapacity(1, 5);
+        due("assign in place of another one, to the capacity", moved.assign(0, 1), 5);
+        due("assign what the other one has left", moved.assign(1, 0), 5);
+    }
+
+    private static void promises51To56Empty() {
+        TicketChains x = new TicketChains();
+        for (int owner = 0; owner < 5; owner++) {
+            due("capacityOf " + owner, x.capacityOf(owner), 20);
+            dueLoad(x, owner, 0);
+            due("inProgressOf " + owner, x.inProgressOf(owner), 0);
+            due("donePointsOf " + owner, x.donePointsOf(owner), 0);
+        }
+        due("freestOwner", x.freestOwner(), 0);
+    }
+
+    private static void promises52To55OfTwenty() {
+        TicketChains x = withTwenty(1);
+        for (int ticket = 0; ticket < 20; ticket++) {
+            due("assign " + ticket, x.assign(ticket, 3), ticket + 1);
+            x.start(ticket);
+            due("inProgressOf(3)", x.inProgressOf(3), ticket + 1);
+        }
+        dueLoad(x, 3, 20);
+        for (int ticket = 0; ticket < 20; ticket++) {
+            x.submit(ticket);
+            x.close(ticket);
+            due("inProgressOf(3)", x.inProgressOf(3), 19 - ticket);
+            due("donePointsOf(3)", x.donePointsOf(3), ticket + 1);
+            dueLoad(x, 3, 19 - ticket);
+        }
+        TicketChains large = withTwenty(13);
+        for (int ticket = 0; ticket < 20; ticket++) {
+            toClosed(large, ticket, 0);
+        }
+        due("donePointsOf all", large.donePointsOf(0), 260);
+        dueLoad(large, 0, 0);
+        due("changeCapacity to 0 with all closed", large.changeCapacity(0, 0), 20);
+        dueState(large, "reopen without capacity", () -> large.reopen(0));
+    }
+
+    private static void promise56Ties() {
+        TicketChains x = new TicketChains();
+        for (int owner = 4; owner >= 0; owner--) {
+            x.changeCapacity(owner, 21);
+            due("freestOwner, " + owner + " has one more too", x.freestOwner(), owner);
+        }
+        for (int owner = 0; owner < 4; owner++) {
+            x.changeCapacity(owner, 20);
+            due("freestOwner, " + owner + " has one fewer", x.freestOwner(), owner + 1);
+        }
+        TicketChains zero = new TicketChains();
+        for (int owner = 0; owner < 5; owner++) {
+            zero.changeCapacity(owner, 0);
+        }
+        due("freestOwner without capacity", zero.freestOwner(), 0);
+        zero.changeCapacity(4, 1);
+        due("freestOwner, the last one has 1", zero.freestOwner(), 4);
     }
 }

@@ -6,9 +6,12 @@ final class StatesTest extends Due {
         promise16SendBack();
         promise17Close();
         promise17CloseSetsFree();
+        promise17BlockedByEachState();
         promise18Reopen();
         promise18ReopenBlocks();
         promise19Drop();
+        promises17To19OfTwenty();
+        promise18AtTheCapacity();
         end("StatesTest");
     }
 
@@ -196,5 +199,78 @@ final class StatesTest extends Due {
         toClosed(x, 4, 0);
         dueState(x, "drop a closed one", () -> x.drop(4));
         due("drop without an owner", x.drop(5), 0);
+    }
+
+    private static void promise17BlockedByEachState() {
+        TicketChains x = withTickets(1, 1);
+        x.need(0, 1);
+        toReview(x, 0, 0);
+        dueState(x, "close, blocked by an open one", () -> x.close(0));
+        x.assign(1, 1);
+        x.start(1);
+        dueState(x, "close, blocked by one in progress", () -> x.close(0));
+        x.submit(1);
+        dueState(x, "close, blocked by one in review", () -> x.close(0));
+        x.close(1);
+        due("close, needing a closed one", x.close(0), 0);
+        TicketChains dropped = withTickets(1, 1, 1);
+        dropped.need(0, 1);
+        dropped.need(0, 2);
+        toReview(dropped, 0, 0);
+        dropped.drop(1);
+        dueState(dropped, "close, one of two is dropped", () -> dropped.close(0));
+        dropped.drop(2);
+        due("close, needing dropped ones", dropped.close(0), 0);
+        TicketChains way = withTickets(1, 1, 1);
+        way.need(0, 1);
+        way.need(1, 2);
+        way.drop(1);
+        toReview(way, 0, 0);
+        due("close, blocked by way of a dropped one alone", way.close(0), 0);
+    }
+
+    /** The first ticket is needed by 19 others, some of them dropped. */
+    private static void promises17To19OfTwenty() {
+        TicketChains x = withTwenty(1);
+        for (int ticket = 1; ticket < 20; ticket++) {
+            x.need(ticket, 0);
+        }
+        x.drop(7);
+        due("neededBy(0)", x.neededBy(0), 19);
+        toReview(x, 0, 0);
+        due("close sets 19 free", x.close(0), 19);
+        due("reopen blocks 19", x.reopen(0), 19);
+        due("drop sets 19 free", x.drop(0), 19);
+        x.undo();
+        x.need(19, 18);
+        due("drop sets 18 free", x.drop(0), 18);
+        x.undo();
+        x.start(0);
+        x.submit(0);
+        due("close sets 18 free", x.close(0), 18);
+        toClosed(x, 1, 0);
+        dueState(x, "reopen, one of 19 is closed", () -> x.reopen(0));
+        x.reopen(1);
+        due("reopen blocks 18", x.reopen(0), 18);
+    }
+
+    private static void promise18AtTheCapacity() {
+        TicketChains x = withTickets(13, 7, 8);
+        toClosed(x, 0, 2);
+        x.assign(2, 2);
+        dueState(x, "reopen 13 beside 8 of 20", () -> x.reopen(0));
+        x.reestimate(2, 7);
+        due("reopen 13 beside 7 of 20", x.reopen(0), 0);
+        due("load", x.loadByAccount(2), 20);
+        due("stateOf one opened again", x.stateOf(0), 0);
+        TicketChains alone = withTickets(5);
+        toClosed(alone, 0, 0);
+        alone.changeCapacity(0, 4);
+        dueState(alone, "reopen 5 with a capacity of 4", () -> alone.reopen(0));
+        alone.changeCapacity(0, 5);
+        due("reopen 5 with a capacity of 5", alone.reopen(0), 0);
+        dueState(alone, "reopen again", () -> alone.reopen(0));
+        alone.start(0);
+        due("started again", alone.stateOf(0), 1);
     }
 }

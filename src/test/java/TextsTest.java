@@ -16,6 +16,10 @@ final class TextsTest extends Due {
         promise23NumbersOfTwoDigits();
         promise23FollowAllOrNothing();
         promise23FollowIsUndoneAsOne();
+        promise23WholeBuffer();
+        promise23SeventeenClosings();
+        promise23FollowThatChangesNothing();
+        promise23FirstAndLastNumbers();
         promise24ImpossibleOrder();
         promise24EachOrder();
         bufferThatTellsNoOrders();
@@ -269,5 +273,81 @@ final class TextsTest extends Due {
             dueArgument(x, "impossibleOrder of " + text, x::impossibleOrder);
             due("the buffer stays: " + text, x.clearBuffer(), text.length());
         }
+    }
+
+    private static void promise23WholeBuffer() {
+        String whole = "e1;".repeat(19) + "e30";
+        TicketChains x = new TicketChains();
+        write(x, whole);
+        due("firstError of 60 characters", x.firstError(), 60);
+        dueState(x, "append to the whole buffer", () -> x.append(';'));
+        dueState(x, "impossibleOrder of 60 characters", x::impossibleOrder);
+        due("follow of 60 characters", x.follow(), 0);
+        due("day", x.day(), 49);
+        due("append behind follow", x.append('e'), 1);
+        endDaysTo(x, 951);
+        dueImpossible(x, whole, 19);
+        endDaysTo(x, 980);
+        dueImpossible(x, whole, 19);
+        endDaysTo(x, 981);
+        dueImpossible(x, whole, 18);
+        endDaysTo(x, 999);
+        dueImpossible(x, whole, 0);
+        TicketChains full = withTickets(1);
+        dueImpossible(full, FULL.substring(0, 59), 19);
+    }
+
+    private static void promise23SeventeenClosings() {
+        TicketChains x = withTwenty(1);
+        for (int ticket = 0; ticket < 20; ticket++) {
+            toReview(x, ticket, 0);
+        }
+        write(x, "c0;c1;c2;c3;c4;c5;c6;c7;c8;c9;c10;c11;c12;c13;c14;c15;c16");
+        due("follow with 17 closings", x.follow(), 17);
+        due("closings", x.closings(), 17);
+        due("withState(3)", x.withState(3), 17);
+        write(x, "c17;c18;c19");
+        due("follow with 3 closings", x.follow(), 3);
+        due("closings", x.closings(), 20);
+    }
+
+    private static void promise23FollowThatChangesNothing() {
+        TicketChains x = withTickets(3);
+        x.assign(0, 0);
+        String before = Reading.of(x);
+        write(x, "a0@1;a0@0");
+        due("follow there and back", x.follow(), 0);
+        dueText("nothing is changed", Reading.of(x), before);
+        due("a state is saved all the same", x.savedStates(), 3);
+        due("the buffer is cleared all the same", x.clearBuffer(), 0);
+        for (int step = 4; step <= 8; step++) {
+            write(x, "e1");
+            x.follow();
+            due("savedStates", x.savedStates(), Math.min(step, 6));
+        }
+        for (int step = 5; step >= 0; step--) {
+            x.undo();
+            due("savedStates", x.savedStates(), step);
+        }
+        dueText("the oldest state that is left", Reading.of(x), before);
+    }
+
+    private static void promise23FirstAndLastNumbers() {
+        TicketChains x = withTickets(1, 1, 1, 1, 1, 1, 1, 1, 1, 1, 1, 1, 1, 1, 1, 1, 1, 1);
+        write(x, "o1!0;o13!3;n0>19;n19>18;a0@0;a18@4;e1;s18;e30;r18;c18");
+        due("follow", x.follow(), 1);
+        due("pointsOf(18)", x.pointsOf(18), 1);
+        due("priorityOf(18)", x.priorityOf(18), 0);
+        due("pointsOf(19)", x.pointsOf(19), 13);
+        due("priorityOf(19)", x.priorityOf(19), 3);
+        due("needs(0,19)", x.needs(0, 19), true);
+        due("needs(19,18)", x.needs(19, 18), true);
+        due("ownerOf(0)", x.ownerOf(0), 0);
+        due("ownerOf(18)", x.ownerOf(18), 4);
+        due("daysInProgress(18)", x.daysInProgress(18), 30);
+        due("closedOn(18)", x.closedOn(18), 31);
+        write(x, "a19@4;s19;r19;c19;s0;r0;c0");
+        due("follow the first and the last ticket", x.follow(), 2);
+        due("donePointsOf(4)", x.donePointsOf(4), 14);
     }
 }

@@ -6,6 +6,8 @@ final class TicketsTest extends Due {
         promise2AtMostTwenty();
         promise3Reestimate();
         promise3ReestimateRefused();
+        promise3ReestimateAtTheCapacity();
+        promise3ReestimateInEachState();
         promise4ChangePriority();
         promises29To32StateAndPoints();
         promises33And34Owner();
@@ -13,6 +15,8 @@ final class TicketsTest extends Due {
         promises37And38Days();
         promise39DaysInProgress();
         promise40TimesSentBack();
+        promises37To39OnTheLastDay();
+        promises29To40OfTheTwentieth();
         queriesOfMissingTickets();
         end("TicketsTest");
     }
@@ -243,5 +247,90 @@ final class TicketsTest extends Due {
             dueIndex(x, "daysInProgress " + ticket, () -> x.daysInProgress(ticket));
             dueIndex(x, "timesSentBack " + ticket, () -> x.timesSentBack(ticket));
         }
+    }
+
+    private static void promise3ReestimateAtTheCapacity() {
+        TicketChains x = withTickets(13, 7, 1, 5);
+        x.assign(0, 3);
+        x.assign(1, 3);
+        due("the load is the capacity", x.loadByAccount(3), 20);
+        due("reestimate to the same, at the capacity", x.reestimate(1, 7), 7);
+        dueState(x, "reestimate to one more, at the capacity", () -> x.reestimate(1, 8));
+        due("reestimate to one fewer, at the capacity", x.reestimate(1, 6), 7);
+        due("reestimate to the capacity again", x.reestimate(1, 7), 6);
+        due("reestimate to 1", x.reestimate(0, 1), 13);
+        due("reestimate to 13", x.reestimate(0, 13), 1);
+        for (int owner = 0; owner < 5; owner++) {
+            x.changeCapacity(owner, owner == 3 ? 20 : 0);
+        }
+        due("reestimate without an owner, no capacity anywhere", x.reestimate(2, 13), 1);
+        due("reestimate without an owner, again", x.reestimate(2, 12), 13);
+        due("the load stays", x.loadByAccount(3), 20);
+        x.drop(1);
+        due("the dropped one is not in the load", x.loadByAccount(3), 13);
+        x.assign(3, 3);
+        due("reestimate to the capacity, beside a dropped one", x.reestimate(3, 7), 5);
+        dueState(x, "reestimate above it, beside a dropped one", () -> x.reestimate(3, 8));
+    }
+
+    private static void promise3ReestimateInEachState() {
+        TicketChains x = withTickets(3, 3, 3);
+        due("reestimate an open one", x.reestimate(0, 4), 3);
+        x.assign(1, 0);
+        x.start(1);
+        due("reestimate one in progress", x.reestimate(1, 5), 3);
+        toReview(x, 2, 0);
+        due("reestimate one in review", x.reestimate(2, 6), 3);
+        due("the load behind all", x.loadByAccount(0), 11);
+        x.close(2);
+        dueState(x, "reestimate a closed one to its own points", () -> x.reestimate(2, 6));
+        x.reopen(2);
+        due("reestimate one opened again", x.reestimate(2, 7), 6);
+        x.drop(2);
+        dueState(x, "reestimate a dropped one to its own points", () -> x.reestimate(2, 7));
+    }
+
+    private static void promises37To39OnTheLastDay() {
+        TicketChains x = withTickets(1, 1);
+        x.assign(0, 0);
+        x.start(0);
+        endDaysTo(x, 999);
+        due("daysInProgress of all days", x.daysInProgress(0), 999);
+        due("openTicket on the last day", x.openTicket(2, 2), 2);
+        due("openedOn the last day", x.openedOn(2), 999);
+        due("openedOn the first day", x.openedOn(0), 0);
+        x.submit(0);
+        x.close(0);
+        due("closedOn the last day", x.closedOn(0), 999);
+        due("daysInProgress of a closed one", x.daysInProgress(0), 999);
+        TicketChains first = withTickets(1);
+        toClosed(first, 0, 0);
+        due("closedOn the first day", first.closedOn(0), 0);
+        due("daysInProgress on the first day", first.daysInProgress(0), 0);
+    }
+
+    private static void promises29To40OfTheTwentieth() {
+        TicketChains x = withTwenty(2);
+        due("tickets", x.tickets(), 20);
+        x.reestimate(19, 13);
+        x.changePriority(19, 3);
+        x.plan(19, 3);
+        x.assign(19, 4);
+        x.start(19);
+        x.endDays(2);
+        x.submit(19);
+        x.sendBack(19);
+        due("stateOf(19)", x.stateOf(19), 1);
+        due("pointsOf(19)", x.pointsOf(19), 13);
+        due("priorityOf(19)", x.priorityOf(19), 3);
+        due("ownerOf(19)", x.ownerOf(19), 4);
+        due("milestoneOf(19)", x.milestoneOf(19), 3);
+        due("openedOn(19)", x.openedOn(19), 0);
+        due("daysInProgress(19)", x.daysInProgress(19), 2);
+        due("timesSentBack(19)", x.timesSentBack(19), 1);
+        due("stateOf(18)", x.stateOf(18), 0);
+        due("pointsOf(18)", x.pointsOf(18), 2);
+        due("hasOwner(18)", x.hasOwner(18), false);
+        due("isPlanned(18)", x.isPlanned(18), false);
     }
 }
