@@ -1,20 +1,29 @@
-/** All that a tracker holds, the saved states and the slots too, as a text; the tracker is used up by that. */
+import java.util.ArrayList;
+import java.util.List;
+
+/** All that a tracker holds, the saved states and the slots too, as texts; the tracker is used up by that. */
 final class Deep {
     private Deep() {
     }
 
     static String of(TicketChains x) {
-        StringBuilder text = new StringBuilder();
-        text.append("digest ").append(x.digest()).append('\n').append(Reading.of(x));
+        return "digest " + x.digest() + "\n" + String.join("then\n", states(x)) + slots(x);
+    }
+
+    /** What the tracker answers now, and what it answers behind each undo, the latest state first. */
+    static List<String> states(TicketChains x) {
+        List<String> states = new ArrayList<>();
+        states.add(Reading.of(x));
         int saved = x.savedStates();
-        for (int back = 1; back <= saved; back++) {
+        for (int back = 0; back < saved; back++) {
             x.undo();
-            text.append(back).append(" states before\n").append(Reading.of(x));
+            states.add(Reading.of(x));
         }
-        for (int slot = 0; slot < 2; slot++) {
-            text.append("slot ").append(slot).append('\n').append(kept(x, slot));
-        }
-        return text.toString();
+        return states;
+    }
+
+    static String slots(TicketChains x) {
+        return "slot 0\n" + kept(x, 0) + "slot 1\n" + kept(x, 1);
     }
 
     private static String kept(TicketChains x, int slot) {

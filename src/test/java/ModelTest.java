@@ -83,7 +83,19 @@ final class ModelTest extends Due {
                 fine &= same(x, y, told, name, arguments(name, y));
             }
         }
-        return fine && same(x, y, told, "digest", new Object[0]);
+        return fine && sameStatesAndSlots(x, y, told);
+    }
+
+    /** Behind the last call: all saved states, then what the slots hold. */
+    private boolean sameStatesAndSlots(TicketChains x, PlainTracker y, StringBuilder told) {
+        boolean fine = same(x, y, told, "digest", new Object[0]);
+        for (int back = 0; back < 7 && fine; back++) {
+            fine = same(x, y, told, "undo", new Object[0]) && same(x, y, told, "digest", new Object[0]);
+        }
+        for (int slot = 0; slot < 2 && fine; slot++) {
+            fine = same(x, y, told, "goBack", new Object[] {slot}) && same(x, y, told, "digest", new Object[0]);
+        }
+        return fine;
     }
 
     private String nextName(int run, int call) {
