@@ -19,6 +19,7 @@ final class MilestonesTest extends Due {
         promises58To60OfTwenty();
         promise61FirstAndLastDay();
         promise62OfTwenty();
+        promise62EachPairOfMilestones();
         queriesOfMissingMilestones();
         end("MilestonesTest");
     }
@@ -401,5 +402,25 @@ final class MilestonesTest extends Due {
         due("misplanned, one dropped", x.misplanned(1), 18);
         x.drop(0);
         due("misplanned, needing a dropped one", x.misplanned(1), 0);
+    }
+
+    private static void promise62EachPairOfMilestones() {
+        for (int of = 0; of < 4; of++) {
+            for (int needed = 0; needed < 4; needed++) {
+                TicketChains x = withTickets(1, 1);
+                x.need(0, 1);
+                x.plan(0, of);
+                x.plan(1, needed);
+                String pair = "misplanned of " + of + ", needing one of " + needed;
+                due(pair, x.misplanned(of), of < needed ? 1 : 0);
+                for (int date = 499; date <= 501; date++) {
+                    x.changeDate(of, 500);
+                    x.changeDate(needed, of == needed ? 500 : date);
+                    due(pair + ", on the day " + date, x.misplanned(of), of != needed && date > 500 ? 1 : 0);
+                }
+                x.unplan(1);
+                due(pair + ", planned for none", x.misplanned(of), 1);
+            }
+        }
     }
 }
