@@ -175,21 +175,27 @@ public final class TicketChains {
         requireIndex(board.hasTicket(ticket));
         requireState(board.canClose(ticket));
         history.save(board);
-        return board.finish(ticket);
+        int blockedBefore = board.blockedSet();
+        board.finish(ticket);
+        return Integer.bitCount(blockedBefore & ~board.blockedSet());
     }
 
     public int reopen(int ticket) throws IndexOutOfBoundsException, IllegalStateException {
         requireIndex(board.hasTicket(ticket));
         requireState(board.canReopen(ticket));
         history.save(board);
-        return board.openAgain(ticket);
+        int blockedBefore = board.blockedSet();
+        board.openAgain(ticket);
+        return Integer.bitCount(board.blockedSet() & ~blockedBefore);
     }
 
     public int drop(int ticket) throws IndexOutOfBoundsException, IllegalStateException {
         requireIndex(board.hasTicket(ticket));
         requireState(board.isUnfinished(ticket));
         history.save(board);
-        return board.leaveOff(ticket, DROPPED);
+        int blockedBefore = board.blockedSet();
+        board.leaveOff(ticket, DROPPED);
+        return Integer.bitCount(blockedBefore & ~board.blockedSet());
     }
 
     // ---- texts
@@ -633,7 +639,7 @@ public final class TicketChains {
     }
 
     private static boolean isIn(int set, int ticket) {
-        return (set & setOf(ticket)) != 0;
+        return (set & (1 << ticket)) != 0;
     }
 
     /** All that a snapshot holds: tickets, owners, milestones, the day, the accounts. */
@@ -922,26 +928,21 @@ public final class TicketChains {
             return putBackCounts[ticket];
         }
 
-        int finish(int ticket) {
+        void finish(int ticket) {
             closingDays[ticket] = today;
             closingCount++;
-            return leaveOff(ticket, CLOSED);
+            leaveOff(ticket, CLOSED);
         }
 
-        /** Ends the work on a ticket; answers how many tickets are not blocked any more by that. */
-        int leaveOff(int ticket, int newState) {
-            int blockedBefore = blockedSet();
+        void leaveOff(int ticket, int newState) {
             states[ticket] = newState;
             addLoad(owners[ticket], -points[ticket]);
-            return Integer.bitCount(blockedBefore & ~blockedSet());
         }
 
-        int openAgain(int ticket) {
-            int blockedBefore = blockedSet();
+        void openAgain(int ticket) {
             states[ticket] = OPEN;
             addLoad(owners[ticket], points[ticket]);
             reopeningCount++;
-            return Integer.bitCount(blockedSet() & ~blockedBefore);
         }
     }
 

